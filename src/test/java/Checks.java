@@ -79,4 +79,54 @@ final class Checks {
         }
         return packs;
     }
+
+    /** All that the questions without predictions tell of an object, but for what append would answer. */
+    static String digest(PackLoans x) {
+        StringBuilder all = new StringBuilder();
+        all.append(x.now()).append(' ').append(x.usedPart());
+        for (int what = 0; what <= 8; what++) {
+            all.append(" count ").append(x.count(what));
+        }
+        for (int what = 0; what <= 5; what++) {
+            all.append(" total ").append(x.total(what));
+        }
+        for (int i = 0; i < x.count(0); i++) {
+            all.append(" pack ");
+            for (int what = 0; what <= 8; what++) {
+                all.append(x.pack(i, what)).append(' ');
+            }
+            for (int hour = 0; hour < 24; hour++) {
+                all.append(x.gainAt(i, hour)).append(' ');
+            }
+            for (int j = 0; j < x.count(0); j++) {
+                for (int what = 0; what <= 3; what++) {
+                    all.append(x.cable(i, j, what)).append(' ');
+                }
+            }
+        }
+        for (int i = 0; i < x.count(4); i++) {
+            all.append(" trip ");
+            for (int what = 0; what <= 3; what++) {
+                all.append(x.trip(i, what)).append(' ');
+            }
+        }
+        for (int i = 0; i < x.count(5); i++) {
+            all.append(" contract ").append(x.interest(i, 1)).append(' ');
+            for (int what = 0; what <= 9; what++) {
+                all.append(x.contract(i, what)).append(' ');
+            }
+        }
+        for (int i = 0; i < x.count(6); i++) {
+            all.append(" loan ");
+            for (int what = 0; what <= 7; what++) {
+                all.append(x.loan(i, what)).append(' ');
+            }
+        }
+        return all.toString();
+    }
+
+    /** The same without the number of actions that can be taken back. */
+    static String digestWithoutActions(PackLoans x) {
+        return digest(x).replaceFirst("(( count -?[0-9]+){8}) count [0-9]+", "$1");
+    }
 }
