@@ -961,8 +961,10 @@ public final class PackLoans {
             int hour = state.time % HOURS;
             for (int pack = 0; pack < plan.packs; pack++) {
                 int gain = plan.gain(pack, hour);
-                state.takenIn += gain;
-                get(pack, gain);
+                if (gain > 0) {
+                    state.takenIn += gain;
+                    get(pack, gain);
+                }
             }
         }
 

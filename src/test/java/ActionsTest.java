@@ -19,6 +19,7 @@ public final class ActionsTest {
         makingTrips();
         running();
         runningToClosed();
+        fullTables();
         CHECKS.end("ActionsTest");
     }
 
@@ -161,6 +162,12 @@ public final class ActionsTest {
         for (int trip : new int[] {Integer.MIN_VALUE, -1, 3, 16, Integer.MAX_VALUE}) {
             CHECKS.noIndex("dropTrip " + trip, () -> x.dropTrip(trip));
         }
+        // Behind the last trip, one that was missed was shifted away.
+        PackLoans y = Checks.loaded(PAIR + ";trip 0 5 8;trip 2 0 1");
+        y.run(1);
+        y.dropTrip(0);
+        CHECKS.same("addTrip behind a dropped one", y.addTrip(0, 3, 4), 1);
+        CHECKS.same("it is to come", y.trip(1, 3), 0);
         x.run(8);
         CHECKS.same("the dropped ones were not made", x.total(1), 7 + 9);
         CHECKS.same("made", x.pack(1, 6), 1);
@@ -204,6 +211,48 @@ public final class ActionsTest {
         CHECKS.same("now", x.now(), 9999);
         CHECKS.same("undo", x.undo(), 7);
         CHECKS.same("now", x.now(), 9001);
+    }
+
+    /** As much of everything as there can be: 8 packs, 12 cables, 8 contracts, 16 trips, 16 loans. */
+    private static void fullTables() {
+        StringBuilder text = new StringBuilder("packs1 9;curve0 0 0 0;curve1 1 1 1;curve2 2 2 2;curve3 3 3 3");
+        for (int pack = 0; pack < 8; pack++) {
+            text.append(";pack99 50");
+        }
+        for (int other = 1; other < 8; other++) {
+            text.append(";cable0 ").append(other).append(" 0 9");
+        }
+        for (int other = 2; other < 7; other++) {
+            text.append(";cable1 ").append(other).append(" 0 9");
+        }
+        for (int other = 1; other < 8; other++) {
+            text.append(";contract").append(other).append(" 0 9 9 9");
+        }
+        text.append(";contract0 1 9 9 9");
+        PackLoans x = Checks.loaded(text.toString());
+        for (int i = 0; i < 16; i++) {
+            CHECKS.same("addTrip", x.addTrip(i % 8, i, 3), i);
+            CHECKS.same("lend", x.lend(i % 8, 4, 1 + i), i);
+        }
+        int[] counts = {8, 4, 12, 0, 16, 8, 16, 16, 8};
+        for (int what = 0; what < counts.length; what++) {
+            CHECKS.same("full: count(" + what + ")", x.count(what), counts[what]);
+        }
+        CHECKS.same("what is to come", x.missIn(7), PackLoans.NONE);
+        CHECKS.same("the last loan", x.endAs(15), 3);
+        CHECKS.same("the last trip", x.lacks(15), 0);
+        CHECKS.same("no more", x.cheapest(0, 1), PackLoans.NONE);
+        CHECKS.same("owes", x.owes(0), 0);
+        x.run(40);
+        CHECKS.same("all are closed", x.count(7), 0);
+        CHECKS.same("all trips were made", x.total(1), 48);
+        // 4 points are 1 of interest.
+        for (int i = 0; i < 16; i++) {
+            CHECKS.same("got back of " + i, x.loan(i, 4), 5);
+        }
+        CHECKS.same("nothing else was lost", x.total(4) + x.total(3), 8 * 50 - 48);
+        CHECKS.same("dropTrip", x.dropTrip(15), PackLoans.WRONG_STATE);
+        CHECKS.yes("all can be asked", Checks.digest(x).length() > 0);
     }
 
     private static void runningToClosed() {

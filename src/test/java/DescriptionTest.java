@@ -111,6 +111,8 @@ public final class DescriptionTest {
         bad("curve 1 1 1 1", 1, 0, 0);
         bad(" Packs 1 1", 1, 1, 0);
         bad("packsx 1 1", 1, 0, 0);
+        bad("xacks 1 1", 1, 0, 0);
+        bad("zacks 1 1", 1, 0, 0);
         bad("pac ks 1 1", 1, 0, 0);
         bad("packs", 1, 5, 0);
         bad("packs ", 1, 6, 0);
@@ -134,6 +136,10 @@ public final class DescriptionTest {
         bad("packs 1 1; pack", 1, 15, 1);
         bad("packs 1 1; packed 9 9", 1, 11, 1);
         bad("packs 1 1; sunny 9 9", 1, 11, 1);
+        bad("packs 1 1; packz 9 9", 1, 11, 1);
+        bad("packs 1 1; packa 9 9", 1, 11, 1);
+        bad("packs 1 1; rack 9 9", 1, 11, 1);
+        bad("packs 1 1; z", 1, 11, 1);
         bad("packs 1 1;pack 9 9;pack 9 9 ?", 1, 28, 2);
         bad("packs 1 1;curve 1 2 3", 1, 21, 1);
         bad("packs 1 1;curve 1 2 3;", 1, 21, 1);

@@ -115,6 +115,7 @@ public final class ForesightTest {
     private static void safety() {
         PackLoans x = Checks.loaded("packs 100 100;pack 100 90;pack 100 0;cable 0 1 0 50;contract 0 1 70 0 0;"
                 + "trip 0 2 70;trip 1 1 20");
+        CHECKS.yes("1 is safe", x.isSafe(0, 1, 1));
         CHECKS.yes("20 is safe", x.isSafe(0, 20, 5));
         CHECKS.yes("21 is not", !x.isSafe(0, 21, 5));
         CHECKS.yes("21 is if the trip is not within the ticks", x.isSafe(0, 21, 2));

@@ -247,7 +247,8 @@ public final class ModelTest {
         }
         if (got != due) {
             wrong++;
-            System.out.println(name + "(" + a + ", " + b + ", " + c + ", " + d + ") answered " + got + ", due is " + due);
+            System.out.println(name + "(" + a + ", " + b + ", " + c + ", " + d + ") answered " + got
+                    + ", due is " + due);
         }
         return got;
     }

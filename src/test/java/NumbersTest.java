@@ -39,6 +39,7 @@ public final class NumbersTest {
         PackLoans x = Checks.loaded(THREE);
         rows("count", new int[] {3, 1, 2, 2, 1, 1, 0, 0, 0}, x::count);
         x.lend(0, 10, 1);
+        CHECKS.same("loan 0 is open", x.count(7), 1);
         x.lend(0, 10, 1);
         x.forgive(0);
         rows("count with loans", new int[] {3, 1, 2, 2, 1, 1, 2, 1, 3}, x::count);
@@ -226,6 +227,14 @@ public final class NumbersTest {
         CHECKS.same("3 of 4", (double) x.fullness(0), 0.75);
         x.drain(1, 2);
         CHECKS.same("1 of 2", (double) x.fullness(1), 0.5);
+        PackLoans z = Checks.loaded("packs 1 1;pack 2 2");
+        z.drain(0, 1);
+        CHECKS.same("a room of 1", z.pack(0, 1), 1);
+        CHECKS.same("1 of 1", (double) z.fullness(0), 1.0);
+        CHECKS.same("the quarter of 1 of 1", z.pack(0, 8), 3);
+        z.drain(0, 1);
+        CHECKS.same("0 of 1", (double) z.fullness(0), 0.0);
+        CHECKS.same("the quarter of 0 of 1", z.pack(0, 8), 0);
         PackLoans y = Checks.loaded("packs 1 1;pack 7 3;pack 100000 1");
         CHECKS.same("3 of 7 is a float", (double) y.fullness(0), (double) (3.0f / 7.0f));
         CHECKS.same("1 of 100000 is a float", (double) y.fullness(1), (double) (1.0f / 100000.0f));
@@ -325,6 +334,9 @@ public final class NumbersTest {
         CHECKS.same("richest by reserve", y.richest(), 2);
         y.setReserve(3, 21);
         CHECKS.same("neediest below zero", y.neediest(), 3);
+        y.setReserve(0, 100);
+        CHECKS.same("neediest is the first", y.neediest(), 0);
+        y.setReserve(0, 1);
         y.setReserve(2, 100000);
         CHECKS.same("neediest far below zero", y.neediest(), 2);
         y.setReserve(0, 51);

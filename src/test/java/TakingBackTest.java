@@ -60,6 +60,7 @@ public final class TakingBackTest {
         taken("mend", true, x -> x.mend(1));
         taken("mend of what is whole", false, x -> x.mend(0));
         taken("charge", true, x -> x.charge(0, 1));
+        taken("charge above the room", true, x -> x.charge(0, 100000));
         taken("drain", true, x -> x.drain(0, 1));
         taken("setReserve", true, x -> x.setReserve(1, 5));
         taken("setReserve to the same", false, x -> x.setReserve(1, 0));
@@ -191,6 +192,14 @@ public final class TakingBackTest {
         CHECKS.yes("undo behind a snapshot", first.equals(Checks.digestWithoutActions(x)));
         CHECKS.same("restoreSnapshot 1", x.restoreSnapshot(1), 43);
         CHECKS.yes("as it was", second.equals(Checks.digestWithoutActions(x)));
+        PackLoans y = Checks.loaded(PAIR);
+        y.lend(0, 5, 5);
+        y.saveSnapshot(0);
+        y.undo();
+        y.lend(1, 6, 6);
+        CHECKS.same("contract of the later loan", y.loan(0, 0), 1);
+        y.restoreSnapshot(0);
+        CHECKS.same("contract of the loan in the snapshot", y.loan(0, 0), 0);
         x.saveSnapshot(0);
         x.run(1);
         CHECKS.same("a snapshot is replaced", x.restoreSnapshot(0), 43);
