@@ -181,25 +181,28 @@ public final class ForesightTest {
         CHECKS.same("now", x.now(), 9999);
     }
 
-    private static void predictionsChangeNothing() {
+    private static PackLoans lent() {
         PackLoans x = Checks.loaded(PAIR + ";sun 1 0 1 5;trip 1 3 200;trip 0 1 1");
         x.lend(0, 70, 6);
         x.run(1);
-        String before = Checks.digest(x);
-        x.chargeIn(1, 500);
-        CHECKS.yes("chargeIn changes nothing", before.equals(Checks.digest(x)));
-        x.missIn(1);
-        CHECKS.yes("missIn changes nothing", before.equals(Checks.digest(x)));
-        x.endIn(0);
-        CHECKS.yes("endIn changes nothing", before.equals(Checks.digest(x)));
-        x.endAs(0);
-        CHECKS.yes("endAs changes nothing", before.equals(Checks.digest(x)));
-        x.lacks(0);
-        CHECKS.yes("lacks changes nothing", before.equals(Checks.digest(x)));
-        CHECKS.yes("a loan that is safe", x.isSafe(0, 10, 500));
-        CHECKS.yes("isSafe changes nothing", before.equals(Checks.digest(x)));
-        x.wearIn(0, 500);
-        CHECKS.yes("wearIn changes nothing", before.equals(Checks.digest(x)));
+        return x;
+    }
+
+    private static void unchanged(String name, java.util.function.Consumer<PackLoans> call) {
+        PackLoans x = lent();
+        call.accept(x);
+        CHECKS.yes(name + " changes nothing", Checks.digest(x).equals(Checks.digest(lent())));
         CHECKS.same("undo", x.undo(), 1);
+        CHECKS.same("the latest action", x.now(), 0);
+    }
+
+    private static void predictionsChangeNothing() {
+        unchanged("chargeIn", x -> x.chargeIn(1, 500));
+        unchanged("missIn", x -> x.missIn(1));
+        unchanged("endIn", x -> x.endIn(0));
+        unchanged("endAs", x -> x.endAs(0));
+        unchanged("lacks", x -> x.lacks(0));
+        unchanged("isSafe", x -> CHECKS.yes("a loan that is safe", x.isSafe(0, 10, 500)));
+        unchanged("wearIn", x -> x.wearIn(0, 500));
     }
 }

@@ -33,23 +33,25 @@ public final class TakingBackTest {
     }
 
     private static void taken(String name, boolean changes, Consumer<PackLoans> action) {
+        PackLoans other = begun();
+        CHECKS.same("a broken contract", other.contract(1, 7), 1);
+        String before = Checks.digestWithoutActions(other);
+        CHECKS.same("undo", other.undo(), 7);
+        String earlier = Checks.digestWithoutActions(other);
         PackLoans x = begun();
-        CHECKS.same("a broken contract", x.contract(1, 7), 1);
-        String before = Checks.digestWithoutActions(x);
         CHECKS.same("actions", x.count(8), 8);
-        CHECKS.same("undo", x.undo(), 7);
-        CHECKS.same("lend again", x.lend(0, 50, 20), 2);
-        CHECKS.yes("the same state again", before.equals(Checks.digestWithoutActions(x)));
         x.undo();
-        String earlier = Checks.digestWithoutActions(x);
-        x.lend(0, 50, 20);
+        CHECKS.same("lend again", x.lend(0, 50, 20), 2);
         action.accept(x);
         CHECKS.same(name + " is an action", x.count(8), 8);
         CHECKS.yes(name + " changes something", changes != before.equals(Checks.digestWithoutActions(x)));
         CHECKS.same("undo of " + name, x.undo(), 7);
         CHECKS.yes(name + " was taken back", before.equals(Checks.digestWithoutActions(x)));
-        CHECKS.same("one more undo", x.undo(), 6);
-        CHECKS.yes("lend was taken back", earlier.equals(Checks.digestWithoutActions(x)));
+        PackLoans y = begun();
+        action.accept(y);
+        y.undo();
+        CHECKS.same("one more undo", y.undo(), 6);
+        CHECKS.yes("lend was taken back", earlier.equals(Checks.digestWithoutActions(y)));
     }
 
     private static void eachAction() {
@@ -170,13 +172,12 @@ public final class TakingBackTest {
         }
         CHECKS.same("nothing was saved", x.restoreSnapshot(0), PackLoans.NONE);
         CHECKS.same("the actions stay", x.count(8), 8);
-        String first = Checks.digestWithoutActions(x);
+        String first = Checks.digestWithoutActions(begun());
+        PackLoans changed = begun();
+        changeMuch(changed);
+        String second = Checks.digestWithoutActions(changed);
         CHECKS.same("saveSnapshot 0", x.saveSnapshot(0), 3);
-        x.run(40);
-        x.mend(1);
-        x.setCable(0, 1, 7, 7);
-        x.dropTrip(1);
-        String second = Checks.digestWithoutActions(x);
+        changeMuch(x);
         CHECKS.same("saveSnapshot 1", x.saveSnapshot(1), 43);
         CHECKS.same("actions", x.count(8), 8);
         CHECKS.same("restoreSnapshot 0", x.restoreSnapshot(0), 3);
@@ -187,11 +188,19 @@ public final class TakingBackTest {
         x.charge(1, 50);
         CHECKS.same("restoreSnapshot 0 again", x.restoreSnapshot(0), 3);
         CHECKS.yes("the snapshot stays", first.equals(Checks.digestWithoutActions(x)));
-        x.run(9);
-        CHECKS.same("undo", x.undo(), 0);
-        CHECKS.yes("undo behind a snapshot", first.equals(Checks.digestWithoutActions(x)));
-        CHECKS.same("restoreSnapshot 1", x.restoreSnapshot(1), 43);
-        CHECKS.yes("as it was", second.equals(Checks.digestWithoutActions(x)));
+        PackLoans z = begun();
+        z.saveSnapshot(0);
+        changeMuch(z);
+        z.saveSnapshot(1);
+        z.restoreSnapshot(0);
+        z.run(9);
+        CHECKS.same("undo", z.undo(), 0);
+        CHECKS.yes("undo behind a snapshot", first.equals(Checks.digestWithoutActions(z)));
+        CHECKS.same("restoreSnapshot 1", z.restoreSnapshot(1), 43);
+        CHECKS.yes("as it was", second.equals(Checks.digestWithoutActions(z)));
+        z.saveSnapshot(0);
+        z.run(1);
+        CHECKS.same("a snapshot is replaced", z.restoreSnapshot(0), 43);
         PackLoans y = Checks.loaded(PAIR);
         y.lend(0, 5, 5);
         y.saveSnapshot(0);
@@ -200,18 +209,23 @@ public final class TakingBackTest {
         CHECKS.same("contract of the later loan", y.loan(0, 0), 1);
         y.restoreSnapshot(0);
         CHECKS.same("contract of the loan in the snapshot", y.loan(0, 0), 0);
-        x.saveSnapshot(0);
-        x.run(1);
-        CHECKS.same("a snapshot is replaced", x.restoreSnapshot(0), 43);
+    }
+
+    private static void changeMuch(PackLoans x) {
+        x.run(40);
+        x.mend(1);
+        x.setCable(0, 1, 7, 7);
+        x.dropTrip(1);
     }
 
     private static void snapshotsAcrossLoads() {
+        String later = "packs 3 3;curve 9 9 9 9;pack 30 3;pack 40 4 0;pack 50 5;cable 2 0 1 2;sun 2 1 1 1;trip 2 2 2;"
+                + "contract 2 0 4 4 4";
+        String first = Checks.digestWithoutActions(begun());
+        String second = Checks.digestWithoutActions(Checks.loaded(later));
         PackLoans x = begun();
-        String first = Checks.digestWithoutActions(x);
         x.saveSnapshot(0);
-        Checks.load(x, "packs 3 3;curve 9 9 9 9;pack 30 3;pack 40 4 0;pack 50 5;cable 2 0 1 2;sun 2 1 1 1;trip 2 2 2;"
-                + "contract 2 0 4 4 4");
-        String second = Checks.digestWithoutActions(x);
+        Checks.load(x, later);
         x.saveSnapshot(1);
         x.append('a');
         CHECKS.same("restoreSnapshot 0", x.restoreSnapshot(0), 3);

@@ -75,10 +75,12 @@ final class UndoBounds {
 
     /** It is an action, and what it leaves is as before; so is what its undo leaves. */
     private static void nothing(String name, Bounds.Call call) {
+        PackLoans other = Bounds.allStates();
+        other.undo();
+        String state = Checks.digestWithoutActions(other);
         PackLoans x = Bounds.allStates();
         x.undo();
         int before = x.count(8);
-        String state = Checks.digestWithoutActions(x);
         Bounds.outcome(x, call);
         BOUNDS.same("count(8) behind " + name, x.count(8), before + 1);
         BOUNDS.yes(name + " changes nothing", state.equals(Checks.digestWithoutActions(x)));
@@ -359,6 +361,14 @@ final class UndoBounds {
 
     private static void restoredTwice() {
         says("Promise 46", "Replaces everything by a copy of a snapshot, which stays");
+        PackLoans sent = Checks.loaded(PAIR);
+        sent.lend(0, 20, 9);
+        sent.run(1);
+        sent.saveSnapshot(1);
+        sent.run(1);
+        BOUNDS.same("sent in the latest tick", sent.cable(0, 1, 2), 0);
+        sent.restoreSnapshot(1);
+        BOUNDS.same("sent in the latest tick of the snapshot", sent.cable(0, 1, 2), 20);
         PackLoans x = Bounds.begun();
         x.restoreSnapshot(0);
         String state = Checks.digest(x);
