@@ -26,11 +26,7 @@ final class Bounds {
 
     static final Bounds ALL = new Bounds();
 
-    /** Words by which a sentence names a boundary; the numbers of sections are none. */
-    private static final Pattern BOUNDARY = Pattern.compile("(?<!section )\\b(\\d+|at (most|least)|NONE|FULL"
-            + "|WRONG_STATE|TOO_LATE|Throws|nothing|none|no|empty|emptied|latest|lowest|first|rounded|later|earlier"
-            + "|more|less|beyond|several|before|without|only|exceed|all|open|otherwise|Otherwise|also|stays?"
-            + "|counts?)\\b");
+    private static final Pattern WORD = Pattern.compile("\\w+");
 
     private final Checks checks = new Checks();
     private final Map<String, String> parts;
@@ -94,12 +90,12 @@ final class Bounds {
         }
     }
 
-    /** Each word of the document that tells of a boundary stands in words that have tests. */
+    /** Each word of the document's sentences stands in words that have tests. */
     void allIsSaid() {
         sentence = "";
         for (Map.Entry<String, String> part : parts.entrySet()) {
             BitSet tested = said.getOrDefault(part.getKey(), new BitSet());
-            Matcher word = BOUNDARY.matcher(part.getValue());
+            Matcher word = WORD.matcher(part.getValue());
             while (word.find()) {
                 int from = Math.max(0, word.start() - 60);
                 int to = Math.min(part.getValue().length(), word.end() + 60);

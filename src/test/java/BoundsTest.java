@@ -1,9 +1,11 @@
-/** Each sentence of the document that names a boundary case has tests of its own; each says which one it tests. */
+/** Each sentence of the document has tests of its own, on both sides of each boundary; they say which one they test. */
 public final class BoundsTest {
     private BoundsTest() {
     }
 
     public static void main(String[] args) {
+        PlainTerms.check();
+        PlainPromises.check();
         DescriptionBounds.check();
         TicksBounds.check();
         NumbersBounds.check();

@@ -6,10 +6,11 @@ import java.util.Map;
 import java.util.regex.Matcher;
 import java.util.regex.Pattern;
 
-/** The parts of the document that promise something: "Section 1" to "Section 5", "Promise 1" to "Promise 46". */
+/** The parts of the document that promise something: "What it is", "Terms", "Section 1" .. "5", "Promise 1" .. "46". */
 final class Document {
     private static final Path PLACE = Path.of("../shared/DOC.md");
-    private static final Pattern HEAD = Pattern.compile("(?m)^(?:## (Promise \\d+):.*|([1-5])\\. [A-Z].*|## .*)$");
+    private static final Pattern HEAD = Pattern.compile(
+            "(?m)^(?:## (Promise \\d+|What it is|Terms)\\b.*|([1-5])\\. [A-Z].*|## .*)$");
 
     private Document() {
     }
