@@ -10,6 +10,7 @@ final class PlainPromises {
 
     static void check() {
         newObject();
+        objectsApart();
         buffer();
         loading();
         numbersOfPacks();
@@ -62,6 +63,44 @@ final class PlainPromises {
         row("total", (y, what) -> y.total(what), x, 0, 0, 0, 0, 0, 0);
         BOUNDS.same("append", x.append(0), 0);
         BOUNDS.same("a snapshot", x.restoreSnapshot(0), PackLoans.NONE);
+    }
+
+    private static void told(StringBuilder all, PackLoans x, int step) {
+        switch (step) {
+            case 0: Checks.append(x, "packs 10 10;pack 100 "); break;
+            case 1: Checks.append(x, "80;pack 90 50;cable 0 1 100 9;contract 0 1 60 1 1;trip 1 5 70"); break;
+            case 2: all.append(x.load()).append(x.loadError()); break;
+            case 3: all.append(x.saveSnapshot(0)); break;
+            case 4: all.append(x.lend(0, 20, 3)); break;
+            case 5: all.append(x.chargeIn(1, 4)); break;
+            case 6: all.append(x.run(4)); break;
+            case 7: all.append(x.drain(0, 7)); break;
+            case 8: all.append(x.saveSnapshot(1)); break;
+            case 9: all.append(x.undo()); break;
+            case 10: all.append(Checks.digest(x)); break;
+            case 11: all.append(Checks.load(x, "pack")).append(x.loadError()); break;
+            case 12: all.append(x.restoreSnapshot(0)).append(x.pack(1, 2)).append(x.loadStatement()); break;
+            default: all.append(x.restoreSnapshot(1)).append(x.pack(1, 2)).append(x.undo()); break;
+        }
+    }
+
+    /** The calls of one object do not change what another one answers. */
+    private static void objectsApart() {
+        StringBuilder due = new StringBuilder();
+        PackLoans alone = new PackLoans();
+        for (int step = 0; step < 14; step++) {
+            told(due, alone, step);
+        }
+        StringBuilder got = new StringBuilder();
+        PackLoans x = new PackLoans();
+        PackLoans other = begun();
+        for (int step = 0; step < 14; step++) {
+            told(got, x, step);
+            told(new StringBuilder(), other, (step + 2) % 10);
+            other.charge(0, 5 + step);
+            other.append('q');
+        }
+        BOUNDS.yes("'" + got + "' as '" + due + "' without another object", got.toString().equals(due.toString()));
     }
 
     private static void buffer() {
@@ -141,6 +180,23 @@ final class PlainPromises {
         row("contract 1,", (y, what) -> y.contract(1, what), x, 1, 2, 60, 1, 0, 22, 1, 0, 20, 0);
         x.run(5);
         row("contract 1, given back,", (y, what) -> y.contract(1, what), x, 1, 2, 60, 1, 0, 0, 0, 0, 20, 23);
+        says("Promise 11", "8 what was sent for its loans, 9 what lenders got back of them");
+        PackLoans z = lent();
+        z.forgive(1);
+        BOUNDS.same("sent for one that is forgiven", z.contract(1, 8), 20);
+        z.undo();
+        z.setReserve(0, 1000);
+        z.drain(1, 80);
+        z.drain(2, 36);
+        z.giveBack(0);
+        z.giveBack(1);
+        z.run(1);
+        BOUNDS.same("broken", z.loan(1, 6), 4);
+        BOUNDS.same("sent for one that is broken", z.contract(1, 8), 20);
+        BOUNDS.same("10 sent back for it", z.contract(1, 9), 8);
+        z.forgive(0);
+        BOUNDS.same("sent for one that is forgiven while it is given back", z.contract(0, 8), 50);
+        BOUNDS.same("50 sent back for it", z.contract(0, 9), 45);
     }
 
     private static void numbersOfLoans() {
@@ -164,6 +220,16 @@ final class PlainPromises {
         row("total", (y, what) -> y.total(what), x, 936, 100, 14, 0, 822, 870);
         says("Promise 15", "Returns which part of all that was taken in was used.");
         BOUNDS.same("usedPart", x.usedPart(), 100.0 / 936.0);
+        PackLoans y = Checks.loaded("packs 1 1;curve 0 0 0 0;pack 100000 1 0");
+        for (int i = 0; i < 169; i++) {
+            y.charge(0, 99999);
+            y.drain(0, 99999);
+        }
+        y.drain(0, 1);
+        y.charge(0, 2);
+        BOUNDS.same("of many", y.usedPart(), 16899832.0 / 16899834.0);
+        y.drain(0, 1);
+        BOUNDS.same("of many and 1 more", y.usedPart(), 16899833.0 / 16899834.0);
     }
 
     private static void beforeALoan() {
@@ -220,6 +286,16 @@ final class PlainPromises {
         BOUNDS.same("loan 1 is given back in the next tick", x.loan(1, 6), 3);
         BOUNDS.same("loan 0 is not", x.loan(0, 6), 0);
         says("Promise 23", "Forgives what is still owed of a loan (an action). - `loan`: a loan Returns what was owed");
+        PackLoans w = Checks.loaded("packs 1 1;pack 99 90;pack 99 90;cable 0 1 0 50;contract 0 1 99 0 9");
+        w.lend(0, 60, 50);
+        w.run(1);
+        w.recall(0);
+        BOUNDS.same("recalled without NOTICE, before the tick", w.loan(0, 6), 0);
+        w.undo();
+        w.giveBack(0);
+        BOUNDS.same("given back, before the tick", w.loan(0, 6), 0);
+        w.run(1);
+        BOUNDS.same("given back, behind the tick", w.loan(0, 6), 2);
         PackLoans y = lent();
         BOUNDS.same("loan 1, forgiven", y.forgive(1), 22);
         BOUNDS.same("it is not owed", y.owes(2), 0);

@@ -16,7 +16,10 @@ final class PlainTerms {
         loanPoints();
         outstanding();
         suns();
+        tripsAndReserves();
         givenBack();
+        borrowersReserve();
+        closedAndBroken();
         takenBack();
         constants();
     }
@@ -211,6 +214,14 @@ final class PlainTerms {
         }
     }
 
+    private static void tripsAndReserves() {
+        says("Section 4", "each trip with TIME t is made if its pack has NEED or more: it gives NEED.");
+        PackLoans x = Checks.loaded("packs 1 1;pack 100 50;trip 0 0 50");
+        x.setReserve(0, 40);
+        x.run(1);
+        BOUNDS.same("a reserve is not kept from trips", x.trip(0, 3), 1);
+    }
+
     private static void givenBack() {
         says("Section 4", "A loan that is given back goes to the lender; its points grow no more by it.");
         PackLoans x = Checks.loaded("packs 1000 1000;curve 9 9 9 9;pack 100 100;pack 100 50 0;cable 0 1 0 50;"
@@ -224,6 +235,70 @@ final class PlainTerms {
         BOUNDS.same("points of the loan", x.loan(0, 3), 20);
         BOUNDS.same("points of the lender", x.pack(0, 3), 20);
         BOUNDS.same("points of the borrower", x.pack(1, 3), 21 * 9);
+    }
+
+    private static void borrowersReserve() {
+        says("Section 4", "otherwise the borrower sends owed * 1000 / (1000 - LOSS), rounded up, but at most its "
+                + "charge");
+        PackLoans x = Checks.loaded("packs 1 1;pack 100 50;pack 100 30;cable 0 1 0 50;contract 0 1 100 0 0");
+        x.lend(0, 20, 1);
+        x.run(1);
+        x.setReserve(1, 100);
+        x.run(1);
+        BOUNDS.same("its reserve does not keep it from that", x.loan(0, 6), 3);
+        says("Section 4", "and at most what the cable can still send in this tick");
+        PackLoans y = Checks.loaded("packs 1000 1000;pack 100 50;pack 100 50;cable 0 1 0 30;contract 0 1 100 0 0;"
+                + "contract 1 0 100 0 9");
+        y.lend(1, 25, 1);
+        y.run(1);
+        y.lend(0, 20, 9);
+        y.lend(0, 9, 9);
+        y.run(1);
+        BOUNDS.same("26 of the loan 0 go from pack 0", y.loan(0, 6), 3);
+        BOUNDS.same("4 of the loan 1 do", y.loan(1, 2), 4);
+        BOUNDS.same("nothing of the loan 2 does", y.loan(2, 2), 0);
+        PackLoans z = Checks.loaded("packs 1000 1000;pack 100 50;pack 100 50;cable 0 1 0 30;contract 0 1 100 0 0;"
+                + "contract 1 0 100 0 9");
+        z.lend(0, 25, 9);
+        z.setReserve(0, 100);
+        z.lend(1, 20, 1);
+        z.run(1);
+        z.setReserve(0, 0);
+        z.run(1);
+        BOUNDS.same("25 of the loan 0 go from pack 0", z.loan(0, 2), 25);
+        BOUNDS.same("5 of the loan 1 do", z.loan(1, 4), 5);
+    }
+
+    private static void closedAndBroken() {
+        says("Section 4", "If nothing is owed then, the loan is closed");
+        PackLoans x = Checks.loaded("packs 1000 2;pack 100 50;pack 100 3;cable 0 1 0 50;contract 0 1 100 0 9");
+        x.lend(0, 10, 1);
+        x.run(2);
+        BOUNDS.same("13 of 15, more than the amount", x.loan(0, 4), 13);
+        BOUNDS.same("the interest is owed too", x.loan(0, 5), 2);
+        BOUNDS.same("it is not closed", x.loan(0, 6), 2);
+        x.charge(1, 2);
+        x.run(1);
+        BOUNDS.same("it is closed", x.loan(0, 6), 3);
+        says("Section 4", "it is broken, and so is its contract.");
+        PackLoans y = Checks.loaded("packs 1 1;pack 99 90;pack 99 90;pack 99 9;cable 0 1 0 50;cable 0 2 0 50;"
+                + "cable 1 2 0 50;contract 0 1 99 0 0;contract 0 2 99 0 0;contract 0 1 99 0 0;contract 1 0 99 0 0;"
+                + "contract 2 1 99 0 0");
+        y.lend(0, 9, 50);
+        y.lend(1, 9, 50);
+        y.lend(2, 9, 1);
+        y.lend(2, 9, 50);
+        y.run(1);
+        y.drain(1, 99);
+        y.run(1);
+        int[] broken = {0, 0, 1, 0, 0};
+        int[] states = {1, 1, 4, 1};
+        for (int contract = 0; contract < broken.length; contract++) {
+            BOUNDS.same("whether the contract " + contract + " is broken", y.contract(contract, 7), broken[contract]);
+        }
+        for (int loan = 0; loan < states.length; loan++) {
+            BOUNDS.same("the state of the loan " + loan, y.loan(loan, 6), states[loan]);
+        }
     }
 
     /** The call is an action: what it changed is as before when it is taken back. */
