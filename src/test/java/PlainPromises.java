@@ -334,6 +334,8 @@ final class PlainPromises {
         BOUNDS.same("used", x.total(1), 43);
         BOUNDS.same("undo", x.undo(), 2);
         BOUNDS.same("pack 2", x.pack(2, 2), 30);
+        x.setReserve(2, 20);
+        BOUNDS.same("a reserve is not kept from that", x.drain(2, 25), 25);
     }
 
     private static void settings() {
@@ -451,6 +453,13 @@ final class PlainPromises {
             BOUNDS.same("undo", x.undo(), left);
             BOUNDS.same("loans behind it", x.count(6), loans[2 - left]);
         }
+        PackLoans y = lent();
+        Checks.load(y, "packs 1 1;pack 1 1");
+        y.append('p');
+        BOUNDS.same("undo behind a text with an error", y.undo(), 2);
+        BOUNDS.same("the kind of that error stays", y.loadError(), 2);
+        BOUNDS.same("its statement stays", y.loadStatement(), 1);
+        BOUNDS.same("the buffer stays", y.append('q'), 2);
     }
 
     private static void saving() {
