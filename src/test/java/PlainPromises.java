@@ -465,12 +465,13 @@ final class PlainPromises {
     private static void saving() {
         says("Promise 45", "Copies everything except the input buffer, the results of the latest load, the actions and "
                 + "the snapshots to a snapshot. - `slot`");
+        String first = Checks.digestWithoutActions(begun());
+        String second = Checks.digestWithoutActions(lent());
         PackLoans x = begun();
-        String first = Checks.digestWithoutActions(x);
         x.saveSnapshot(0);
         x.lend(0, 120, 9);
+        x.lend(1, 20, 5);
         x.run(1);
-        String second = Checks.digestWithoutActions(x);
         x.saveSnapshot(1);
         x.run(1);
         BOUNDS.same("the first", x.restoreSnapshot(0), 0);
