@@ -11,8 +11,6 @@ import java.util.Set;
 import java.util.TreeSet;
 import java.util.regex.Matcher;
 import java.util.regex.Pattern;
-import javax.tools.JavaCompiler;
-import javax.tools.ToolProvider;
 
 /** The code of README.md compiles, its calls answer as it says, and its table of calls is that of the document. */
 public final class ReadmeTest {
@@ -112,10 +110,8 @@ public final class ReadmeTest {
         Path source = place.resolve("Page.java");
         try {
             Files.writeString(source, program);
-            JavaCompiler compiler = ToolProvider.getSystemJavaCompiler();
-            CHECKS.yes("there is a compiler", compiler != null);
-            int answer = compiler == null ? 1 : compiler.run(null, System.out, System.out, "-d", place.toString(),
-                    "-cp", System.getProperty("java.class.path"), source.toString());
+            int answer = new ProcessBuilder("javac", "--release", "17", "-d", place.toString(), "-cp",
+                    System.getProperty("java.class.path"), source.toString()).inheritIO().start().waitFor();
             CHECKS.same("the compiler's answer to the code of README.md", answer, 0);
             if (answer == 0) {
                 try (URLClassLoader loader = new URLClassLoader(new URL[] {place.toUri().toURL()})) {
